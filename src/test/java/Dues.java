@@ -1,0 +1,33 @@
+/** Holds answers against those that are due, and tells the tape's bytes to an object. */
+final class Dues {
+    private final String test;
+    private int wrong = 0;
+
+    Dues(String test) {
+        this.test = test;
+    }
+
+    void due(String call, long got, long want) {
+        if (got == want) return;
+        wrong++;
+        System.out.println(test + ": " + call + " answered " + got + ", due is " + want);
+    }
+
+    /** Feeds a text by the bytes and makes it the text of a use: 1, or what text() answers else. */
+    static int tell(SameStar star, int use, String tape) {
+        for (int i = 0; i < tape.length(); i++) {
+            star.feed(1, tape.charAt(i));
+        }
+        return star.text(use);
+    }
+
+    /** The day as year, month, day of the reckoning that counts without a text. */
+    static void date(SameStar star, int day) {
+        star.date(day / 360, day % 360 / 30, day % 30);
+    }
+
+    void end() {
+        System.out.println(test + ": " + (wrong == 0 ? "all answers are as due" : wrong + " answers are not as due"));
+        if (wrong != 0) System.exit(1);
+    }
+}
