@@ -12,7 +12,7 @@ public final class SameStar {
     private static final int LAST_DAY = 999999, NO_DAY = -1, NO_REIGN = -1, UNTOLD_REIGN = 99;
     private static final int CIRCLE = 360, HALF_CIRCLE = 180, LODGES = 24, LODGE_WIDTH = 15;
     private static final int PEOPLES = 9, REIGNS = 20, MOST_SLACK = 400, MOST_DATE = 9999;
-    private static final int MOST_RETURNS = 60, RETURNS = 2 * MOST_RETURNS + 1, FAR = 120;
+    private static final int MOST_RETURNS = 60, RETURNS = 2 * MOST_RETURNS + 1, FAR = 120, WINDOW = 2 * FAR + 1;
 
     private static final int MOST_GREATS = 4, MOST_COMETS = 12, MOST_WORDS = 150, MOST_WATCHES = 10;
     private static final int COMETS_WEIGHED_BY_BEST = 6;
@@ -81,14 +81,13 @@ public final class SameStar {
         Comet c = sky.cometAt(comet);
         if (c == null || !isReturnNumber(k) || !isDay(day) || !within(what, 0, 3)) return BAD;
         if (!c.hasReturn(k)) return NOT;
-        int pass = c.passOf(k);
-        int e = day - pass;
+        int e = day - c.passOf(k);
         if (isFar(e)) return NOT;
         switch (what) {
             case 0: return c.degreeAt(e);
             case 1: return c.distanceAt(e);
             case 2: return c.apartOfSun(e, day);
-            default: return sight.tailOf(c, 0, pass, day);
+            default: return sight.tailOf(c, 0, e, day);
         }
     }
 
@@ -315,8 +314,12 @@ public final class SameStar {
     public int right(int people, int comet, int what) {
         Comet c = sky.cometAt(comet);
         if (c == null || !isPeople(people) || !within(what, 0, 1)) return VOID;
-        int move = story.putRight(people, c);
-        return what == 0 ? move : story.fittingWhenMoved(move);
+        story.forgetMoves();
+        for (int i = 0; i < book.words; i++) {
+            Word w = book.wordAt(i);
+            if (w != null && w.people == people && w.kind != COPIED) story.countMovesOf(w, c);
+        }
+        return story.bestMove(what);
     }
 
     public int broke(int comet, int k) {
@@ -526,6 +529,7 @@ public final class SameStar {
         int brokeOn = VOID;
         int first = 0, last = 0;
         private final int[] passes = new int[RETURNS];
+        private final int[] degrees = new int[WINDOW];
         // What Sight found out of this comet, and as of which of its versions; made when first wanted.
         long[] sights = null;
         final int[] sightsVersions = new int[PEOPLES];
@@ -538,6 +542,9 @@ public final class SameStar {
             this.way = way;
             this.bright = bright;
             this.parent = parent;
+            for (int i = 0; i < WINDOW; i++) {
+                degrees[i] = (node + turned(way, i - FAR, reach) + CIRCLE) % CIRCLE;
+            }
         }
 
         boolean hasReturn(int k) {
@@ -553,7 +560,7 @@ public final class SameStar {
         }
 
         int degreeAt(int e) {
-            return (node + turned(way, e, reach) + CIRCLE) % CIRCLE;
+            return e >= -FAR && e <= FAR ? degrees[e + FAR] : node;
         }
 
         int distanceAt(int e) {
@@ -1137,28 +1144,37 @@ public final class SameStar {
             version++;
         }
 
-        int tailOf(Comet c, int people, int pass, int day) {
-            if (!tailText.isTold()) return 0;
-            tellNames(c, people, pass, day);
-            return Math.max(0, Math.min(MOST_TAIL, tailText.valueWith(names, stack)));
+        int tailOf(Comet c, int people, int e, int day) {
+            return tailText.isTold() ? Math.max(0, Math.min(MOST_TAIL, toldBy(tailText, c, people, e, day))) : 0;
+        }
+
+        private int toldBy(Text text, Comet c, int people, int e, int day) {
+            int degree = c.degreeAt(e);
+            names[Text.S] = apart(degree, day % CIRCLE);
+            names[Text.Q] = c.distanceAt(e);
+            names[Text.B] = c.bright;
+            names[Text.G] = degree;
+            names[Text.E] = e;
+            names[Text.D] = day % 30;
+            names[Text.P] = people;
+            return text.valueWith(names, stack);
         }
 
         /** Whether a people can see a return, moved by some days, on a day. */
         boolean seenOn(Comet c, int people, int k, int move, int day) {
-            int pass = c.passOf(k) + move;
-            int bit = day - pass + FAR;
-            if (isFar(day - pass)) return false;
-            // Without a text it is quicker told than remembered; a moved return is looked at once.
-            if (move != 0 || !seenText.isTold()) return canBeSeen(c, people, pass, day);
+            int e = day - c.passOf(k) - move;
+            if (isFar(e) || c.apartOfSun(e, day) < LEAST_APART) return false;
+            if (!seenText.isTold()) return true;
             long[] known = sightsOf(c, people);
-            int at = (people * RETURNS + k + MOST_RETURNS) * ROW + bit / 64;
-            if (at < 0 || at + LONGS >= known.length) return canBeSeen(c, people, pass, day);
-            long mask = 1L << (bit & 63);
-            if ((known[at] & mask) == 0) {
-                known[at] |= mask;
-                if (canBeSeen(c, people, pass, day)) known[at + LONGS] |= mask;
+            int at = (people * RETURNS + k + MOST_RETURNS) * ROW + (e + FAR) / 64;
+            // A moved return is looked at once; what is seen of one that is not may be asked often.
+            if (move != 0 || at < 0 || at + LONGS >= known.length) return toldBy(seenText, c, people, e, day) != 0;
+            long bit = 1L << (e + FAR & 63);
+            if ((known[at] & bit) == 0) {
+                known[at] |= bit;
+                if (toldBy(seenText, c, people, e, day) != 0) known[at + LONGS] |= bit;
             }
-            return (known[at + LONGS] & mask) != 0;
+            return (known[at + LONGS] & bit) != 0;
         }
 
         private long[] sightsOf(Comet c, int people) {
@@ -1174,63 +1190,40 @@ public final class SameStar {
             return known;
         }
 
-        private boolean canBeSeen(Comet c, int people, int pass, int day) {
-            if (c.apartOfSun(day - pass, day) < LEAST_APART) return false;
-            if (!seenText.isTold()) return true;
-            tellNames(c, people, pass, day);
-            return seenText.valueWith(names, stack) != 0;
-        }
-
-        private void tellNames(Comet c, int people, int pass, int day) {
-            int e = day - pass;
-            names[Text.S] = c.apartOfSun(e, day);
-            names[Text.Q] = c.distanceAt(e);
-            names[Text.B] = c.bright;
-            names[Text.G] = c.degreeAt(e);
-            names[Text.E] = e;
-            names[Text.D] = day % 30;
-            names[Text.P] = people;
-        }
-
-        /** The least day, from..to days of its pass, on which a word fits a return moved by some days. */
+        /** The least day, from..to days off its pass, on which a word fits a return moved by some days. */
         int fitDay(Word w, Comet c, int k, int move, int from, int to) {
-            int day = firstDay(w, c, k, move, from, to, true);
-            if (day == NO_DAY || w.kind != TWICE) return day;
-            return firstDay(w, c, k, move, -FAR, FAR, false) == NO_DAY ? NO_DAY : day;
+            int pass = c.passOf(k) + move;
+            Word root = w.rootWord();
+            // TWICE wants a day that is not as told, too, which may lie outside of from..to.
+            boolean isTwice = w.kind == TWICE;
+            boolean isEnough = !isTwice;
+            int least = NO_DAY;
+            for (int i = 0; i < root.spans; i++) {
+                int start = Math.max(root.spanFrom(i), pass + (isTwice ? -FAR : from));
+                int end = Math.min(root.spanTo(i), pass + (isTwice ? FAR : to));
+                for (int day = start; day <= end; day++) {
+                    if (isEnough && least != NO_DAY && day >= least) break;
+                    if (!seenOn(c, w.people, k, move, day)) continue;
+                    if (!isAsSaid(w, c, day - pass, day)) isEnough = true;
+                    else if (within(day - pass, from, to) && (least == NO_DAY || day < least)) least = day;
+                }
+            }
+            return isEnough ? least : NO_DAY;
         }
 
         boolean goneBehind(Word before, Word after, Comet c, int k) {
             return fitDay(before, c, k, 0, -FAR, -1) != NO_DAY && fitDay(after, c, k, 0, 1, FAR) != NO_DAY;
         }
 
-        private int firstDay(Word w, Comet c, int k, int move, int from, int to, boolean asTold) {
-            int pass = c.passOf(k) + move;
-            Word root = w.rootWord();
-            int least = NO_DAY;
-            for (int i = 0; i < root.spans; i++) {
-                int start = Math.max(root.spanFrom(i), pass + from);
-                int end = Math.min(root.spanTo(i), pass + to);
-                if (least != NO_DAY) end = Math.min(end, least - 1);
-                for (int day = start; day <= end; day++) {
-                    if (seenOn(c, w.people, k, move, day) && isAsSaid(w, c, pass, day, asTold)) {
-                        least = day;
-                        break;
-                    }
-                }
-            }
-            return least;
-        }
-
-        /** Whether what a word says beside its day holds on one; not asTold: SEEN and TWICE turned around. */
-        boolean isAsSaid(Word w, Comet c, int pass, int day, boolean asTold) {
-            int e = day - pass;
+        /** Whether what a word says beside its day holds on one, e days from the pass. */
+        boolean isAsSaid(Word w, Comet c, int e, int day) {
             switch (w.kind) {
                 case PLACED: return offLodge(c.degreeAt(e), w.more) <= NEAR_A_LODGE;
                 case MEASURED: return offLodge(c.degreeAt(e), w.more) == 0;
                 case SEEN:
-                case TWICE: return c.isWest(e, day) == (w.more == 1) == asTold;
+                case TWICE: return c.isWest(e, day) == (w.more == 1);
                 case MOVED: return Math.abs(e) <= NEAR_THE_PASS;
-                case NEW_STAR: return tailOf(c, w.people, pass, day) == 0;
+                case NEW_STAR: return tailOf(c, w.people, e, day) == 0;
                 default: return true;
             }
         }
@@ -1247,7 +1240,6 @@ public final class SameStar {
     private static final class Story {
         private static final int SURE_DAYS = 5, MOST_MOVE = 400, MOVE_STEP = 10, MOVES = 81;
         private static final int FOR_A_ROOT = 3, FOR_A_COMET = 5, LONGS = 3, UNWEIGHED = -1;
-        private static final int DAYS = 2 * FAR + 1;
 
         private final Sky sky;
         private final Book book;
@@ -1261,8 +1253,8 @@ public final class SameStar {
         private final long[] rootsOf = new long[MOST_COMETS * LONGS];
         private final int[] missingOf = new int[MOST_COMETS];
         // How many days of a return, up to each, are as told, and how many not so.
-        private final int[] asTold = new int[DAYS + 1];
-        private final int[] notSo = new int[DAYS + 1];
+        private final int[] asTold = new int[WINDOW + 1];
+        private final int[] notSo = new int[WINDOW + 1];
         private final boolean[] fitsMoved = new boolean[MOVES];
         private final int[] fittingMoved = new int[MOVES];
         private final int[] near = new int[RETURNS];
@@ -1375,32 +1367,26 @@ public final class SameStar {
 
         // ---- years put right
 
-        /** The move by which most of a people's words fit a comet. */
-        int putRight(int people, Comet c) {
+        void forgetMoves() {
             Arrays.fill(fittingMoved, 0);
-            for (int j = 0; j < book.words; j++) {
-                Word w = book.wordAt(j);
-                if (w != null && w.people == people && w.kind != COPIED) countMovesOf(w, c);
-            }
+        }
+
+        /** The move by which most of the counted words fit (what 0), or how many then (1). */
+        int bestMove(int what) {
             int best = 0;
             for (int i = 1; i < MOVES; i++) {
                 int more = fittingMoved[i] - fittingMoved[best];
                 if (more > 0 || more == 0 && Math.abs(moveOf(i)) < Math.abs(moveOf(best))) best = i;
             }
-            return moveOf(best);
-        }
-
-        /** How many words fitted by a move, when a people was put right last. */
-        int fittingWhenMoved(int move) {
-            int i = (move + MOST_MOVE) / MOVE_STEP;
-            return within(i, 0, MOVES - 1) ? fittingMoved[i] : 0;
+            return what == 0 ? moveOf(best) : fittingMoved[best];
         }
 
         private static int moveOf(int i) {
             return i * MOVE_STEP - MOST_MOVE;
         }
 
-        private void countMovesOf(Word w, Comet c) {
+        /** Counts a word for each move by which it fits some return. */
+        void countMovesOf(Word w, Comet c) {
             for (int i = 0; i < MOVES; i++) {
                 fitsMoved[i] = false;
             }
@@ -1415,7 +1401,7 @@ public final class SameStar {
             }
         }
 
-        /** Counts the days of a return that some move could bring a word to; false: none can. */
+        /** Counts the days of a return that some move could bring a word to; false: there is none. */
         private boolean countDays(Word w, Comet c, int k) {
             int pass = c.passOf(k);
             int from = LAST_DAY;
@@ -1427,10 +1413,10 @@ public final class SameStar {
             from = Math.max(from, pass - FAR);
             to = Math.min(to, pass + FAR);
             if (from > to) return false;
-            for (int i = 0; i < DAYS; i++) {
+            for (int i = 0; i < WINDOW; i++) {
                 int day = pass - FAR + i;
                 boolean isSeen = within(day, from, to) && sight.seenOn(c, w.people, k, 0, day);
-                boolean is = isSeen && sight.isAsSaid(w, c, pass, day, true);
+                boolean is = isSeen && sight.isAsSaid(w, c, day - pass, day);
                 asTold[i + 1] = asTold[i] + (is ? 1 : 0);
                 notSo[i + 1] = notSo[i] + (isSeen && !is ? 1 : 0);
             }
@@ -1444,7 +1430,7 @@ public final class SameStar {
         private boolean hasCounted(int[] counts, Word w, int pass, int move) {
             for (int i = 0; i < w.spans; i++) {
                 int from = Math.max(w.movedFrom(i, move) - pass + FAR, 0);
-                int to = Math.min(w.movedTo(i, move) - pass + FAR, DAYS - 1);
+                int to = Math.min(w.movedTo(i, move) - pass + FAR, WINDOW - 1);
                 if (from <= to && from < counts.length && to >= -1 && counts[to + 1] > counts[from]) return true;
             }
             return false;

@@ -125,6 +125,7 @@ public final class StoryTest {
         x.put(0, 1, 1199);
         x.put(0, 2, 30);
         Dues.tell(x, 11, "36000");
+        due("judge ahead of words", x.judge(1), -3);
         due("words", x.words(1, 0, 0, 1), 1);
         due("judge after words", x.judge(1), 0);
     }
