@@ -495,9 +495,9 @@ public final class WordTest {
         due("behind: twice, no day above", x.behind(add(x, TWICE, 3, 35970, 29, WEST), add(x, WORD, 3, 35999, 0, 0)), NOT);
         due("behind: one and the same", x.behind(about, about), BAD);
         Dues.tell(x, 0, "1");
-        x.comet(100000, 300, 109010, 5);
-        due("behind: the last return", x.behind(add(x, WORD, 0, 117999, 0, 0), add(x, WORD, 0, 118001, 0, 0)), 2160);
-        due("behind: the first return", x.behind(add(x, WORD, 0, 82001, 0, 0), add(x, WORD, 0, 81999, 0, 0)), 2040);
+        x.comet(100500, 300, 109010, 5);
+        due("behind: the last return", x.behind(add(x, WORD, 0, 118499, 0, 0), add(x, WORD, 0, 118501, 0, 0)), 2160);
+        due("behind: the first return", x.behind(add(x, WORD, 0, 82501, 0, 0), add(x, WORD, 0, 82499, 0, 0)), 2040);
         due("behind 99", x.behind(0, 99), BAD);
         due("behind -1", x.behind(-1, 0), BAD);
     }
