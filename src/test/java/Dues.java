@@ -26,6 +26,23 @@ final class Dues {
         star.date(day / 360, day % 360 / 30, day % 30);
     }
 
+    /** A word without a reign, by the reckoning that counts without a text: its number. */
+    static int add(SameStar star, int kind, int people, int day, int slack, int more) {
+        date(star, day);
+        return star.word(10000 * people + 100 * kind + 99, slack, more);
+    }
+
+    /**
+     * A comet that passes on day 36000, when the sun is at 0, from degree 90 on against the sun's way:
+     * in the east from 120 days ahead to 26, in the west from 25 ahead to 18 behind, too near the sun
+     * then, and in the east again from 35 behind on.
+     */
+    static SameStar turning() {
+        SameStar star = new SameStar();
+        star.comet(36000, 40000, 109010, 5);
+        return star;
+    }
+
     void end() {
         System.out.println(test + ": " + (wrong == 0 ? "all answers are as due" : wrong + " answers are not as due"));
         if (wrong != 0) System.exit(1);

@@ -27,38 +27,26 @@ public final class StoryTest {
         DUES.due(call, got, want);
     }
 
-    private static int add(SameStar x, int kind, int people, int day, int slack, int more) {
-        Dues.date(x, day);
-        return x.word(10000 * people + 100 * kind + 99, slack, more);
-    }
-
-    /** As in WordTest: seen from 120 days ahead of day 36000 to 18 behind it, and from 35 behind on. */
-    private static SameStar turning() {
-        SameStar x = new SameStar();
-        x.comet(36000, 40000, 109010, 5);
-        return x;
-    }
-
     private static void judgeRoots() {
-        SameStar x = turning();
+        SameStar x = Dues.turning();
         due("judge none", x.judge(0), 0);
         due("judge a comet without words", x.judge(1), -5);
-        add(x, WORD, 0, 36000, 0, 0);
+        Dues.add(x, WORD, 0, 36000, 0, 0);
         due("judge with a word", x.judge(1), -2);
-        add(x, WORD, 1, 36000, 0, 0);
+        Dues.add(x, WORD, 1, 36000, 0, 0);
         due("judge with two words", x.judge(1), 1);
         x.word(20399, 0, 0);
         due("judge with a copy", x.judge(1), 1);
-        add(x, WORD, 0, 36019, 0, 0);
+        Dues.add(x, WORD, 0, 36019, 0, 0);
         due("judge with a word that does not fit", x.judge(1), 1);
-        add(x, WORD, 0, 76000, 0, 0);
+        Dues.add(x, WORD, 0, 76000, 0, 0);
         due("judge with a word of another return", x.judge(1), 4);
         x.comet(36000, 40000, 109010, 5);
         due("judge the like comet", x.judge(2), 4);
         due("judge both: each root once", x.judge(3), -1);
         due("judge no such comet", x.judge(4), VOID);
         due("judge -1", x.judge(-1), VOID);
-        for (int i = 0; i < 145; i++) add(x, WORD, 8, 36000, 5, 0);
+        for (int i = 0; i < 145; i++) Dues.add(x, WORD, 8, 36000, 5, 0);
         due("judge with 150 words", x.judge(1), 3 * 148 - 5);
     }
 
@@ -69,11 +57,11 @@ public final class StoryTest {
             {36116, 36500, -6}, {36117, 36500, -5}, {35000, 35884, -6}, {35000, 35883, -5}, {36000, 76000, -7}, {36121, 75879, -5},
         };
         for (int[] w : wants) {
-            SameStar x = turning();
+            SameStar x = Dues.turning();
             x.watch(3, w[0], w[1]);
             due("judge with a watch " + w[0] + " to " + w[1], x.judge(1), w[2]);
         }
-        SameStar x = turning();
+        SameStar x = Dues.turning();
         x.watch(3, 36000, 36002);
         x.watch(3, 36003, 36005);
         due("judge with two short watches", x.judge(1), -5);
@@ -84,12 +72,12 @@ public final class StoryTest {
         due("judge: they could not see it", x.judge(1), -5);
         Dues.tell(x, 0, "p>4");
         due("judge: one could see it", x.judge(1), -6);
-        add(x, WORD, 6, 36100, 0, 0);
+        Dues.add(x, WORD, 6, 36100, 0, 0);
         due("judge: a word of another people fits", x.judge(1), -2);
-        SameStar y = turning();
+        SameStar y = Dues.turning();
         Dues.tell(y, 0, "p>0");
         y.watch(3, 36000, 36009);
-        int root = add(y, WORD, 0, 36000, 5, 0);
+        int root = Dues.add(y, WORD, 0, 36000, 5, 0);
         due("judge: the root does not fit", y.judge(1), -6);
         y.word(10399, 0, root);
         due("judge: the copy fits", y.judge(1), -5);
@@ -97,9 +85,9 @@ public final class StoryTest {
 
     // What is kept of a comet's worth may not outlast what it came of.
     private static void judgeAgain() {
-        SameStar x = turning();
-        add(x, WORD, 0, 36018, 0, 0);
-        add(x, NEW_STAR, 5, 36010, 0, 0);
+        SameStar x = Dues.turning();
+        Dues.add(x, WORD, 0, 36018, 0, 0);
+        Dues.add(x, NEW_STAR, 5, 36010, 0, 0);
         due("judge", x.judge(1), 1);
         Dues.tell(x, 1, "7");
         due("judge after a tail", x.judge(1), -2);
@@ -135,13 +123,13 @@ public final class StoryTest {
         due("best of none", x.best(0), 0);
         due("best worth of none", x.best(1), 0);
         x.comet(36000, 40000, 109010, 5);
-        add(x, WORD, 0, 36000, 0, 0);
+        Dues.add(x, WORD, 0, 36000, 0, 0);
         due("best: one word is too few", x.best(0), 0);
-        add(x, WORD, 0, 36001, 0, 0);
+        Dues.add(x, WORD, 0, 36001, 0, 0);
         due("best: two words", x.best(0), 1);
         due("best worth: two words", x.best(1), 1);
         x.comet(56000, 40000, 109010, 5);
-        for (int i = 0; i < 3; i++) add(x, WORD, 0, 56000 + i, 0, 0);
+        for (int i = 0; i < 3; i++) Dues.add(x, WORD, 0, 56000 + i, 0, 0);
         due("best: both", x.best(0), 3);
         due("best worth: both", x.best(1), 5);
         x.watch(0, 36300, 999999);
@@ -150,20 +138,20 @@ public final class StoryTest {
     }
 
     private static void bestOfLikeOnes() {
-        SameStar x = turning();
+        SameStar x = Dues.turning();
         x.comet(36000, 40000, 109010, 5);
-        add(x, WORD, 0, 36000, 0, 0);
-        add(x, WORD, 0, 36001, 0, 0);
+        Dues.add(x, WORD, 0, 36000, 0, 0);
+        Dues.add(x, WORD, 0, 36001, 0, 0);
         due("best: the least as bits", x.best(0), 1);
         x.watch(0, 76000, 76010);
         due("best: none is the fewest", x.best(0), 0);
         due("best worth", x.best(1), 0);
 
         // Two comets fit two words each; the third fits all four, but five returns of it were missed.
-        SameStar y = turning();
+        SameStar y = Dues.turning();
         y.comet(36400, 40000, 9010, 5);
         y.comet(36000, 400, 9010, 5);
-        for (int day : new int[] {36000, 36005, 36400, 36405}) add(y, WORD, 0, day, 0, 0);
+        for (int day : new int[] {36000, 36005, 36400, 36405}) Dues.add(y, WORD, 0, day, 0, 0);
         y.watch(0, 37200, 38800);
         due("judge the first two", y.judge(3), 2);
         due("judge the third", y.judge(4), 2);
@@ -178,10 +166,10 @@ public final class StoryTest {
         for (int i = 0; i < 5; i++) x.comet(500000, 40000, 109010, 5);
         x.comet(56000, 40000, 109010, 5);
         x.comet(36000, 40000, 109010, 5);
-        for (int i = 0; i < 4; i++) add(x, MOVED, 0, 36000 + i, 0, 0);
+        for (int i = 0; i < 4; i++) Dues.add(x, MOVED, 0, 36000 + i, 0, 0);
         due("judge the seventh", x.judge(64), 7);
         due("best of the first six", x.best(0), 0);
-        for (int i = 0; i < 2; i++) add(x, MOVED, 0, 56000 + i, 0, 0);
+        for (int i = 0; i < 2; i++) Dues.add(x, MOVED, 0, 56000 + i, 0, 0);
         due("best of the first six: the sixth", x.best(0), 32);
         due("best worth of the first six", x.best(1), 1);
     }
@@ -308,30 +296,30 @@ public final class StoryTest {
     }
 
     private static void right() {
-        SameStar x = turning();
+        SameStar x = Dues.turning();
         put("no words", x, 2, 0, 0);
-        add(x, WORD, 2, 36150, 0, 0);
+        Dues.add(x, WORD, 2, 36150, 0, 0);
         put("one word", x, 2, -30, 1);
-        add(x, WORD, 2, 36160, 0, 0);
+        Dues.add(x, WORD, 2, 36160, 0, 0);
         put("two words", x, 2, -40, 2);
         x.word(20399, 0, 0);
         put("a copy does not count", x, 2, -40, 2);
         x.word(30399, 0, 0);
         put("a people of copies alone", x, 3, 0, 0);
-        add(x, WORD, 4, 36000, 0, 0);
+        Dues.add(x, WORD, 4, 36000, 0, 0);
         put("words of others do not count", x, 2, -40, 2);
         put("words that are right", x, 4, 0, 1);
-        add(x, WORD, 5, 36027, 0, 0);
+        Dues.add(x, WORD, 5, 36027, 0, 0);
         put("of like ones the one below 0", x, 5, -10, 1);
-        add(x, WORD, 6, 36520, 0, 0);
+        Dues.add(x, WORD, 6, 36520, 0, 0);
         put("the least move", x, 6, -400, 1);
-        add(x, WORD, 6, 36521, 0, 0);
+        Dues.add(x, WORD, 6, 36521, 0, 0);
         put("beyond the least move", x, 6, -400, 1);
-        add(x, WORD, 7, 35480, 0, 0);
+        Dues.add(x, WORD, 7, 35480, 0, 0);
         put("the greatest move", x, 7, 400, 1);
-        add(x, TWICE, 8, 36050, 10, WEST);
+        Dues.add(x, TWICE, 8, 36050, 10, WEST);
         put("twice", x, 8, -70, 1);
-        add(x, WORD, 1, 76130, 0, 0);
+        Dues.add(x, WORD, 1, 76130, 0, 0);
         put("a later return", x, 1, -10, 1);
         Dues.tell(x, 0, "p=1&e=50");
         put("a text of who sees", x, 1, -80, 1);
@@ -370,7 +358,7 @@ public final class StoryTest {
     }
 
     private static void next() {
-        SameStar x = turning();
+        SameStar x = Dues.turning();
         x.comet(36000, 40000, 109010, 0);
         due("next without a watch", x.next(0, 1, 0), NOT);
         x.watch(4, 35000, 37000);
@@ -392,7 +380,7 @@ public final class StoryTest {
     }
 
     private static void nextOfPeoples() {
-        SameStar x = turning();
+        SameStar x = Dues.turning();
         x.comet(800000, 40000, 109010, 0);
         x.watch(7, 35890, 37000);
         due("next of one watch", x.next(0, 1, 1), 7);
@@ -407,13 +395,13 @@ public final class StoryTest {
         // The second comet comes back to 40000 on return -19, far from 36000; the first one's return 1 is 76000.
         x.watch(7, 75800, 75990);
         due("next: the first of two returns", x.next(0, 1, 0), 35890);
-        SameStar y = turning();
+        SameStar y = Dues.turning();
         y.comet(800000, 40000, 109010, 0);
         y.watch(7, 75800, 75990);
         due("next: of a later return", y.next(0, 1, 0), 75880);
         y.comet(76180, 40000, 109010, 0);
         due("next: the other one is seen by a return of its own", y.next(0, 2, 0), 75880);
-        SameStar z = turning();
+        SameStar z = Dues.turning();
         z.comet(36180, 400, 109010, 5);
         z.watch(7, 36060, 36070);
         due("next: the other one is seen, too", z.next(0, 1, 0), NOT);

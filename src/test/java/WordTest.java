@@ -33,22 +33,6 @@ public final class WordTest {
         DUES.due(call, got, want);
     }
 
-    private static int add(SameStar x, int kind, int people, int day, int slack, int more) {
-        Dues.date(x, day);
-        return x.word(10000 * people + 100 * kind + 99, slack, more);
-    }
-
-    /**
-     * A comet that passes on day 36000, when the sun is at 0, from degree 90 on against the sun's way:
-     * in the east from 120 days ahead to 26, in the west from 25 ahead to 18 behind, too near the sun
-     * then, and in the east again from 35 behind on.
-     */
-    private static SameStar turning() {
-        SameStar x = new SameStar();
-        x.comet(36000, 40000, 109010, 5);
-        return x;
-    }
-
     private static void word() {
         SameStar x = new SameStar();
         x.reign(7, 5, -1);
@@ -174,19 +158,19 @@ public final class WordTest {
 
     private static void spans() {
         SameStar x = new SameStar();
-        add(x, WORD, 0, 5000, 7, 0);
+        Dues.add(x, WORD, 0, 5000, 7, 0);
         span(x, 0, 0, 4993, 5007);
         span(x, 0, 1, VOID, VOID);
-        add(x, WORD, 0, 3, 5, 0);
+        Dues.add(x, WORD, 0, 3, 5, 0);
         span(x, 1, 0, 0, 8);
-        add(x, WORD, 0, 999999, 400, 0);
+        Dues.add(x, WORD, 0, 999999, 400, 0);
         span(x, 2, 0, 999599, 999999);
         x.date(9999, 9999, 9999);
         x.word(99, 400, 0);
         span(x, 3, 0, VOID, VOID);
-        add(x, WORD, 0, 1000399, 400, 0);
+        Dues.add(x, WORD, 0, 1000399, 400, 0);
         span(x, 4, 0, 999999, 999999);
-        add(x, WORD, 0, 1000400, 400, 0);
+        Dues.add(x, WORD, 0, 1000400, 400, 0);
         span(x, 5, 0, VOID, VOID);
         due("a span without days is one", x.ofWord(5, 9), 1);
         Dues.tell(x, 11, "d-r");
@@ -234,12 +218,12 @@ public final class WordTest {
     }
 
     private static void fit(SameStar x, int kind, int day, int slack, int more, int want) {
-        int word = add(x, kind, 0, day, slack, more);
+        int word = Dues.add(x, kind, 0, day, slack, more);
         due("fits kind " + kind + ", " + (day - 36000) + ", " + slack + ", " + more, x.fits(word, 0, 0), want);
     }
 
     private static void fitsWord() {
-        SameStar x = turning();
+        SameStar x = Dues.turning();
         fit(x, WORD, 36000, 400, 0, 35880);
         fit(x, WORD, 36000, 0, 0, 36000);
         fit(x, WORD, 36018, 0, 0, 36018);
@@ -264,12 +248,12 @@ public final class WordTest {
         for (int[] w : wants) {
             SameStar x = new SameStar();
             x.comet(36090, 40000, 100 * w[0] + 10, 5);
-            add(x, PLACED, 0, 36090, 0, w[1]);
-            add(x, MEASURED, 0, 36090, 0, w[1]);
+            Dues.add(x, PLACED, 0, 36090, 0, w[1]);
+            Dues.add(x, MEASURED, 0, 36090, 0, w[1]);
             due("placed " + w[0] + ", " + w[1], x.fits(0, 0, 0), w[2]);
             due("measured " + w[0] + ", " + w[1], x.fits(1, 0, 0), w[3]);
         }
-        SameStar x = turning();
+        SameStar x = Dues.turning();
         // Degrees 115, 110, 105, 98, 90, 82 from 4 days ahead to 1 behind.
         fit(x, MEASURED, 36000, 10, 6, 35999);
         fit(x, PLACED, 36000, 10, 6, 35997);
@@ -278,7 +262,7 @@ public final class WordTest {
     }
 
     private static void fitsSeen() {
-        SameStar x = turning();
+        SameStar x = Dues.turning();
         fit(x, SEEN, 36000, 60, WEST, 35975);
         fit(x, SEEN, 36000, 60, EAST, 35940);
         fit(x, SEEN, 36010, 8, EAST, NOT);
@@ -293,8 +277,8 @@ public final class WordTest {
         SameStar y = new SameStar();
         y.comet(36000, 40000, 18010, 5);
         y.comet(36000, 40000, 17910, 5);
-        add(y, SEEN, 0, 36000, 0, WEST);
-        add(y, SEEN, 0, 36000, 0, EAST);
+        Dues.add(y, SEEN, 0, 36000, 0, WEST);
+        Dues.add(y, SEEN, 0, 36000, 0, EAST);
         due("west at 180", y.fits(0, 0, 0), NOT);
         due("east at 180", y.fits(1, 0, 0), 36000);
         due("west at 179", y.fits(0, 1, 0), 36000);
@@ -302,7 +286,7 @@ public final class WordTest {
     }
 
     private static void fitsTwice() {
-        SameStar x = turning();
+        SameStar x = Dues.turning();
         fit(x, TWICE, 36025, 15, WEST, 36010);
         fit(x, TWICE, 36025, 15, EAST, 36035);
         fit(x, TWICE, 36022, 12, WEST, NOT);
@@ -324,7 +308,7 @@ public final class WordTest {
     }
 
     private static void fitsOthers() {
-        SameStar x = turning();
+        SameStar x = Dues.turning();
         fit(x, MOVED, 36000, 400, 0, 35990);
         fit(x, MOVED, 36011, 0, 0, NOT);
         fit(x, MOVED, 36011, 1, 0, 36010);
@@ -337,7 +321,7 @@ public final class WordTest {
         fit(x, NEW_STAR, 36000, 8, 0, 35992);
         Dues.tell(x, 1, "p=3?0;1");
         fit(x, NEW_STAR, 36000, 8, 0, NOT);
-        due("new star by people 3", x.fits(add(x, NEW_STAR, 3, 36000, 8, 0), 0, 0), 35992);
+        due("new star by people 3", x.fits(Dues.add(x, NEW_STAR, 3, 36000, 8, 0), 0, 0), 35992);
         // Of two spans the least day is told, be it in the one told last.
         Dues.tell(x, 15, "r");
         x.reign(0, 36010, 36000);
@@ -350,9 +334,9 @@ public final class WordTest {
     }
 
     private static void fitsCopied() {
-        SameStar x = turning();
+        SameStar x = Dues.turning();
         Dues.tell(x, 0, "p=4|e>5");
-        int root = add(x, MEASURED, 3, 36000, 10, 20);
+        int root = Dues.add(x, MEASURED, 3, 36000, 10, 20);
         Dues.date(x, 99);
         x.word(40399, 0, root);
         x.word(20399, 400, root);
@@ -364,8 +348,8 @@ public final class WordTest {
     }
 
     private static void fitsBad() {
-        SameStar x = turning();
-        add(x, WORD, 0, 36000, 5, 0);
+        SameStar x = Dues.turning();
+        Dues.add(x, WORD, 0, 36000, 5, 0);
         due("fits word 1", x.fits(1, 0, 0), BAD);
         due("fits word -1", x.fits(-1, 0, 0), BAD);
         due("fits comet 1", x.fits(0, 1, 0), BAD);
@@ -383,30 +367,30 @@ public final class WordTest {
     }
 
     private static void perhaps() {
-        SameStar x = turning();
+        SameStar x = Dues.turning();
         x.great(20000, 60);
         due("pass 1", x.pass(0, 1, 0), 75940);
-        int word = add(x, WORD, 0, 75940 + 125, 0, 0);
+        int word = Dues.add(x, WORD, 0, 75940 + 125, 0, 0);
         due("fits", x.fits(word, 0, 1), NOT);
         due("perhaps by a move behind", x.perhaps(word, 0, 1), 8);
-        word = add(x, WORD, 0, 75940 - 125, 0, 0);
+        word = Dues.add(x, WORD, 0, 75940 - 125, 0, 0);
         due("perhaps by a move ahead", x.perhaps(word, 0, 1), -8);
-        word = add(x, WORD, 0, 75940 + 180, 0, 0);
+        word = Dues.add(x, WORD, 0, 75940 + 180, 0, 0);
         due("perhaps by the greatest move", x.perhaps(word, 0, 1), 60);
-        word = add(x, WORD, 0, 75940 + 181, 0, 0);
+        word = Dues.add(x, WORD, 0, 75940 + 181, 0, 0);
         due("perhaps beyond the greatest move", x.perhaps(word, 0, 1), NOT);
         Dues.tell(x, 0, "e=50");
-        due("perhaps by the least move", x.perhaps(add(x, WORD, 0, 75940 - 10, 0, 0), 0, 1), -60);
-        due("perhaps beyond the least move", x.perhaps(add(x, WORD, 0, 75940 - 14, 0, 0), 0, 1), NOT);
+        due("perhaps by the least move", x.perhaps(Dues.add(x, WORD, 0, 75940 - 10, 0, 0), 0, 1), -60);
+        due("perhaps beyond the least move", x.perhaps(Dues.add(x, WORD, 0, 75940 - 14, 0, 0), 0, 1), NOT);
         Dues.tell(x, 0, "1");
-        word = add(x, WORD, 0, 75940, 0, 0);
+        word = Dues.add(x, WORD, 0, 75940, 0, 0);
         due("perhaps without a move", x.perhaps(word, 0, 1), 0);
         Dues.tell(x, 0, "e>4|e<0-4");
         due("perhaps by two like moves", x.perhaps(word, 0, 1), -8);
         Dues.tell(x, 0, "e<0-4");
         due("perhaps by one of them", x.perhaps(word, 0, 1), 8);
-        due("perhaps of return 0 has no moves", x.perhaps(add(x, WORD, 0, 36000, 0, 0), 0, 0), NOT);
-        due("perhaps of return 0", x.perhaps(add(x, WORD, 0, 35990, 0, 0), 0, 0), 0);
+        due("perhaps of return 0 has no moves", x.perhaps(Dues.add(x, WORD, 0, 36000, 0, 0), 0, 0), NOT);
+        due("perhaps of return 0", x.perhaps(Dues.add(x, WORD, 0, 35990, 0, 0), 0, 0), 0);
     }
 
     // e is 3, if the pass is moved by -3: there is such a move or not, as steps go.
@@ -416,9 +400,9 @@ public final class WordTest {
             {19, -3, 0}, {20, NOT, 0}, {21, -3, -1}, {39, -3, -1}, {40, NOT, -1}, {42, -3, 0}, {41, NOT, 1}, {2, NOT, 0}, {3, -3, 0},
         };
         for (int[] w : wants) {
-            SameStar x = turning();
+            SameStar x = Dues.turning();
             x.great(20000, w[0]);
-            int word = add(x, WORD, 0, x.pass(0, 1, 0), 0, 0);
+            int word = Dues.add(x, WORD, 0, x.pass(0, 1, 0), 0, 0);
             Dues.tell(x, 0, "e=3");
             due("perhaps with wide " + w[0], x.perhaps(word, 0, 1), w[1]);
             Dues.tell(x, 0, "1");
@@ -427,28 +411,28 @@ public final class WordTest {
     }
 
     private static void whose() {
-        SameStar x = turning();
+        SameStar x = Dues.turning();
         x.comet(36000, 300, 109010, 5);
-        int word = add(x, WORD, 0, 36150, 31, 0);
+        int word = Dues.add(x, WORD, 0, 36150, 31, 0);
         due("whose, of few returns", x.whose(word, 0), 0);
         due("whose, the first of two", x.whose(word, 1), 0);
-        word = add(x, WORD, 0, 36150, 0, 0);
+        word = Dues.add(x, WORD, 0, 36150, 0, 0);
         due("whose, between returns", x.whose(word, 1), VOID);
-        word = add(x, WORD, 0, 35100, 0, 0);
+        word = Dues.add(x, WORD, 0, 35100, 0, 0);
         due("whose, ahead", x.whose(word, 1), -3);
-        word = add(x, WORD, 0, 36000 - 61 * 300, 0, 0);
+        word = Dues.add(x, WORD, 0, 36000 - 61 * 300, 0, 0);
         due("whose, beyond 60 ahead", x.whose(word, 1), VOID);
-        word = add(x, WORD, 0, 36000 - 60 * 300, 0, 0);
+        word = Dues.add(x, WORD, 0, 36000 - 60 * 300, 0, 0);
         due("whose, 60 ahead", x.whose(word, 1), -60);
-        word = add(x, WORD, 0, 36000 + 60 * 300, 0, 0);
+        word = Dues.add(x, WORD, 0, 36000 + 60 * 300, 0, 0);
         due("whose, 60 behind", x.whose(word, 1), 60);
     }
 
     private static void evening() {
         SameStar x = new SameStar();
-        add(x, WORD, 0, 5000, 10, 0);
-        add(x, WORD, 1, 5030, 20, 0);
-        add(x, WORD, 2, 5031, 20, 0);
+        Dues.add(x, WORD, 0, 5000, 10, 0);
+        Dues.add(x, WORD, 1, 5030, 20, 0);
+        Dues.add(x, WORD, 2, 5031, 20, 0);
         due("evening on one day", x.evening(0, 1), 5010);
         due("evening the other way around", x.evening(1, 0), 5010);
         due("evening without a day", x.evening(0, 2), NOT);
@@ -471,33 +455,33 @@ public final class WordTest {
     }
 
     private static void behind() {
-        SameStar x = turning();
+        SameStar x = Dues.turning();
         x.comet(50000, 1000, 109010, 5);
-        int ahead = add(x, WORD, 0, 35990, 9, 0);
-        int on = add(x, WORD, 0, 36000, 0, 0);
-        int after = add(x, WORD, 0, 36010, 9, 0);
-        int about = add(x, WORD, 0, 36000, 1, 0);
+        int ahead = Dues.add(x, WORD, 0, 35990, 9, 0);
+        int on = Dues.add(x, WORD, 0, 36000, 0, 0);
+        int after = Dues.add(x, WORD, 0, 36010, 9, 0);
+        int about = Dues.add(x, WORD, 0, 36000, 1, 0);
         // The second comet passes on 36000, too, on return -14.
         due("behind", x.behind(ahead, after), 100);
         due("behind the other way around", x.behind(after, ahead), 100);
         due("behind: on the pass is neither", x.behind(on, after), NOT);
-        due("behind: both ahead", x.behind(ahead, add(x, WORD, 0, 35980, 9, 0)), NOT);
+        due("behind: both ahead", x.behind(ahead, Dues.add(x, WORD, 0, 35980, 9, 0)), NOT);
         due("behind: one on both sides", x.behind(about, ahead), 100);
-        int late = add(x, WORD, 0, 53040, 0, 0);
-        int early = add(x, SEEN, 0, 52900, 0, EAST);
+        int late = Dues.add(x, WORD, 0, 53040, 0, 0);
+        int early = Dues.add(x, SEEN, 0, 52900, 0, EAST);
         due("behind of the second comet", x.behind(late, early), 1103);
         Dues.tell(x, 0, "b=5&e<0|p=3");
         due("behind: not seen after the pass", x.behind(late, early), NOT);
-        due("behind: seen by another people", x.behind(add(x, WORD, 3, 53040, 0, 0), early), 1103);
-        due("behind: a return ahead", x.behind(add(x, WORD, 3, 40990, 0, 0), add(x, WORD, 3, 41010, 0, 0)), 1091);
-        int twice = add(x, TWICE, 3, 36006, 30, WEST);
-        due("behind: twice", x.behind(twice, add(x, WORD, 3, 35999, 0, 0)), 100);
-        due("behind: twice, no day above", x.behind(add(x, TWICE, 3, 35970, 29, WEST), add(x, WORD, 3, 35999, 0, 0)), NOT);
+        due("behind: seen by another people", x.behind(Dues.add(x, WORD, 3, 53040, 0, 0), early), 1103);
+        due("behind: a return ahead", x.behind(Dues.add(x, WORD, 3, 40990, 0, 0), Dues.add(x, WORD, 3, 41010, 0, 0)), 1091);
+        int twice = Dues.add(x, TWICE, 3, 36006, 30, WEST);
+        due("behind: twice", x.behind(twice, Dues.add(x, WORD, 3, 35999, 0, 0)), 100);
+        due("behind: twice, no day above", x.behind(Dues.add(x, TWICE, 3, 35970, 29, WEST), Dues.add(x, WORD, 3, 35999, 0, 0)), NOT);
         due("behind: one and the same", x.behind(about, about), BAD);
         Dues.tell(x, 0, "1");
         x.comet(100500, 300, 109010, 5);
-        due("behind: the last return", x.behind(add(x, WORD, 0, 118499, 0, 0), add(x, WORD, 0, 118501, 0, 0)), 2160);
-        due("behind: the first return", x.behind(add(x, WORD, 0, 82501, 0, 0), add(x, WORD, 0, 82499, 0, 0)), 2040);
+        due("behind: the last return", x.behind(Dues.add(x, WORD, 0, 118499, 0, 0), Dues.add(x, WORD, 0, 118501, 0, 0)), 2160);
+        due("behind: the first return", x.behind(Dues.add(x, WORD, 0, 82501, 0, 0), Dues.add(x, WORD, 0, 82499, 0, 0)), 2040);
         due("behind 99", x.behind(0, 99), BAD);
         due("behind -1", x.behind(-1, 0), BAD);
     }
@@ -505,8 +489,8 @@ public final class WordTest {
     private static void once() {
         SameStar x = new SameStar();
         due("once of none", x.once(-1), 0);
-        add(x, WORD, 0, 1, 0, 0);
-        add(x, WORD, 1, 1, 0, 0);
+        Dues.add(x, WORD, 0, 1, 0, 0);
+        Dues.add(x, WORD, 1, 1, 0, 0);
         x.word(20399, 0, 0);
         x.word(20399, 0, 2);
         x.word(20399, 0, 1);
