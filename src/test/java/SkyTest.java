@@ -12,6 +12,7 @@ public final class SkyTest {
         passesAhead();
         passesAtTheEnds();
         passesThatGoBack();
+        fewerPasses();
         stands();
         seen();
         foretold();
@@ -154,6 +155,28 @@ public final class SkyTest {
         due("back: pass -1, none comes there from ahead", x.pass(0, -1, 0), 14800);
         x.comet(100, 200, 5, 0);
         due("back: pass 1 far on", x.pass(1, 1, 0), 540);
+        SameStar y = new SameStar();
+        y.comet(15000, 200, 5, 0);
+        for (int i = 0; i < 4; i++) y.great(20000, 50);
+        due("still: pass 1", y.pass(0, 1, 0), 15000);
+        due("still: the pass ahead is below", y.pass(0, -1, 0), 14800);
+    }
+
+    private static void fewerPasses() {
+        SameStar x = new SameStar();
+        x.comet(999340, 300, 5, 0);
+        x.comet(610, 300, 5, 0);
+        due("pass 2 without greats", x.pass(0, 2, 0), 999940);
+        due("pass -2 without greats", x.pass(1, -2, 0), 10);
+        x.great(20000, 60);
+        due("pass 1 by a great", x.pass(0, 1, 0), 999580);
+        due("pass -1 by a great", x.pass(1, -1, 0), 250);
+        due("pass -2 by a great", x.pass(1, -2, 0), NOT);
+        SameStar y = new SameStar();
+        y.comet(999340, 300, 5, 0);
+        y.great(100, 60);
+        due("pass 1 by another great", y.pass(0, 1, 0), 999700);
+        due("pass 2 by another great", y.pass(0, 2, 0), NOT);
     }
 
     private static void stands() {

@@ -48,6 +48,9 @@ public final class StoryTest {
         due("judge -1", x.judge(-1), VOID);
         for (int i = 0; i < 145; i++) Dues.add(x, WORD, 8, 36000, 5, 0);
         due("judge with 150 words", x.judge(1), 3 * 148 - 5);
+        SameStar y = Dues.turning();
+        for (int i = 0; i < 150; i++) Dues.add(y, WORD, 8, i < 64 ? 76000 : 36000, 5, 0);
+        due("judge with 150 words of two returns", y.judge(1), 3 * 150 - 5);
     }
 
     private static void judgeWatches() {
@@ -215,6 +218,10 @@ public final class StoryTest {
         path(x, 5000, 5, 2420, 4940, 5, 1, 17);
         due("the evenings stay", x.count(5), 3);
         x.forget();
+        x.observed(5000, 10);
+        x.observed(5000, 10);
+        path(x, 5000, 0, 2420, 4940, 5, 1, 287);
+        x.forget();
         x.observed(30, 359);
         x.observed(30, 1);
         path(x, 90, 2, 2420, 30, 5, 1, 359);
@@ -315,6 +322,9 @@ public final class StoryTest {
         put("the least move", x, 6, -400, 1);
         Dues.add(x, WORD, 6, 36521, 0, 0);
         put("beyond the least move", x, 6, -400, 1);
+        SameStar z = Dues.turning();
+        Dues.add(z, WORD, 6, 36510, 0, 0);
+        put("the least move but one", z, 6, -390, 1);
         Dues.add(x, WORD, 7, 35480, 0, 0);
         put("the greatest move", x, 7, 400, 1);
         Dues.add(x, TWICE, 8, 36050, 10, WEST);
@@ -401,9 +411,27 @@ public final class StoryTest {
         due("next: of a later return", y.next(0, 1, 0), 75880);
         y.comet(76180, 40000, 109010, 0);
         due("next: the other one is seen by a return of its own", y.next(0, 2, 0), 75880);
+        nextAtTheEnds();
         SameStar z = Dues.turning();
         z.comet(36180, 400, 109010, 5);
         z.watch(7, 36060, 36070);
         due("next: the other one is seen, too", z.next(0, 1, 0), NOT);
+    }
+
+    private static void nextAtTheEnds() {
+        SameStar x = Dues.turning();
+        x.comet(36240, 40000, 109010, 5);
+        x.watch(7, 36120, 36120);
+        due("next: 120 behind the one, 120 ahead of the other", x.next(0, 1, 0), NOT);
+        x.comet(100000, 300, 109010, 5);
+        x.comet(500000, 200, 109010, 5);
+        x.watch(6, 117950, 118050);
+        due("next: the last return", x.next(2, 3, 0), 117950);
+        x.comet(117990, 40000, 109010, 5);
+        due("next: the other one on the last return", x.next(4, 2, 0), NOT);
+        x.watch(6, 81950, 82050);
+        due("next: the first return", x.next(2, 3, 0), 81950);
+        x.comet(81990, 40000, 109010, 5);
+        due("next: the other one on the first return", x.next(5, 2, 0), NOT);
     }
 }

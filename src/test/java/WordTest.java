@@ -389,6 +389,12 @@ public final class WordTest {
         due("perhaps by two like moves", x.perhaps(word, 0, 1), -8);
         Dues.tell(x, 0, "e<0-4");
         due("perhaps by one of them", x.perhaps(word, 0, 1), 8);
+        // What is seen of a moved return on one day tells nothing of another day that is as far from it.
+        Dues.tell(x, 0, "d=3&e>0");
+        due("perhaps on a day that is not so", x.perhaps(Dues.add(x, WORD, 0, 75992, 0, 0), 0, 1), NOT);
+        due("perhaps on a day that is so", x.perhaps(Dues.add(x, WORD, 0, 75993, 0, 0), 0, 1), 0);
+        due("perhaps on a day that is so, behind", x.perhaps(Dues.add(x, WORD, 0, 76083, 0, 0), 0, 1), 24);
+        Dues.tell(x, 0, "e<0-4");
         due("perhaps of return 0 has no moves", x.perhaps(Dues.add(x, WORD, 0, 36000, 0, 0), 0, 0), NOT);
         due("perhaps of return 0", x.perhaps(Dues.add(x, WORD, 0, 35990, 0, 0), 0, 0), 0);
     }
@@ -396,8 +402,9 @@ public final class WordTest {
     // e is 3, if the pass is moved by -3: there is such a move or not, as steps go.
     private static void perhapsSteps() {
         int[][] wants = {
-            // wide, the move by which e is 3, the least move of all
-            {19, -3, 0}, {20, NOT, 0}, {21, -3, -1}, {39, -3, -1}, {40, NOT, -1}, {42, -3, 0}, {41, NOT, 1}, {2, NOT, 0}, {3, -3, 0},
+            // wide, the move by which e is 3, the least move of all, the least beside 0
+            {19, -3, 0, -1}, {20, NOT, 0, -2}, {21, -3, -1}, {39, -3, -1}, {40, NOT, -1}, {42, -3, 0, -3}, {41, NOT, 1}, {2, NOT, 0, -1},
+            {3, -3, 0, -1}, {1, NOT, 0, -1},
         };
         for (int[] w : wants) {
             SameStar x = Dues.turning();
@@ -407,6 +414,8 @@ public final class WordTest {
             due("perhaps with wide " + w[0], x.perhaps(word, 0, 1), w[1]);
             Dues.tell(x, 0, "1");
             due("perhaps with wide " + w[0], x.perhaps(word, 0, 1), w[2]);
+            Dues.tell(x, 0, "!e=0");
+            if (w[2] == 0) due("perhaps by less than none with wide " + w[0], x.perhaps(word, 0, 1), w[3]);
         }
     }
 
@@ -465,6 +474,7 @@ public final class WordTest {
         due("behind", x.behind(ahead, after), 100);
         due("behind the other way around", x.behind(after, ahead), 100);
         due("behind: on the pass is neither", x.behind(on, after), NOT);
+        due("behind: the other one on the pass", x.behind(ahead, on), NOT);
         due("behind: both ahead", x.behind(ahead, Dues.add(x, WORD, 0, 35980, 9, 0)), NOT);
         due("behind: one on both sides", x.behind(about, ahead), 100);
         int late = Dues.add(x, WORD, 0, 53040, 0, 0);
