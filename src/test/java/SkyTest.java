@@ -174,6 +174,16 @@ public final class SkyTest {
         due("pass -2 by a great", x.pass(1, -2, 0), NOT);
         SameStar y = new SameStar();
         y.comet(999340, 300, 5, 0);
+        y.comet(999640, 300, 5, 0);
+        y.comet(310, 300, 5, 0);
+        due("pass 1 without greats", y.pass(1, 1, 0), 999940);
+        due("pass -1 without greats", y.pass(2, -1, 0), 10);
+        y.great(100, 60);
+        due("no pass 1 by a great", y.pass(1, 1, 0), NOT);
+        y.great(20000, 60);
+        due("pass -1 by two greats, to which none comes", y.pass(2, -1, 0), 10);
+        y = new SameStar();
+        y.comet(999340, 300, 5, 0);
         y.great(100, 60);
         due("pass 1 by another great", y.pass(0, 1, 0), 999700);
         due("pass 2 by another great", y.pass(0, 2, 0), NOT);
