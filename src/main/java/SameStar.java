@@ -1278,7 +1278,10 @@ public final class SameStar {
 
         // ---- which of a word's returns, if they are moved
 
-        /** The least move by which a word fits a return: tried from 0 outward, the one below 0 first. */
+        /**
+         * The least move by which a word fits a return: tried from 0 outward, the one below 0 first. With
+         * a pass that is no day there is no return that it could fit.
+         */
         int leastMove(Word w, Comet c, int k) {
             int wide = sky.wideOf(k);
             int step = 1 + wide / 20;
@@ -1288,7 +1291,7 @@ public final class SameStar {
             for (int i = 0; i <= 2 * wide / step; i++) {
                 boolean isBelow = above > wide || below >= -wide && -below <= above;
                 int move = isBelow ? below : above;
-                if (sight.fitDay(w, c, k, move, -FAR, FAR) != NO_DAY) return move;
+                if (isDay(c.passOf(k) + move) && sight.fitDay(w, c, k, move, -FAR, FAR) != NO_DAY) return move;
                 if (isBelow) below -= step;
                 else above += step;
             }
@@ -1501,7 +1504,8 @@ public final class SameStar {
 
         int findPaths(int day, int slack, int what) {
             int found = 0;
-            for (int pass = day - ABOUT; pass <= day + ABOUT; pass++) {
+            int latest = Math.min(day + ABOUT, LAST_DAY);
+            for (int pass = Math.max(day - ABOUT, 0); pass <= latest; pass++) {
                 for (int reach = 5; reach <= 95; reach += 10) {
                     for (int way = 1; way >= -1; way -= 2) {
                         int node = nodeOf(pass, reach, way, slack);

@@ -64,7 +64,7 @@ public final class AgainstPlainTest {
     }
 
     private void comet() {
-        int pass = draw(0, 9) == 0 ? draw(0, 1) * 999999 : draw(0, 20000);
+        int pass = draw(0, 9) == 0 ? draw(0, 1) * 999999 : draw(0, draw(0, 5) == 0 ? 400 : 20000);
         int span = draw(0, 3) == 0 ? draw(200, 300) : draw(200, 6000);
         int node = draw(0, 359);
         int reach = draw(5, 99);
@@ -193,11 +193,17 @@ public final class AgainstPlainTest {
             due("forget", star.forget(), plain.evenings.size());
             plain.evenings.clear();
         }
-        int day = plain.evenings.isEmpty() ? draw(100, 3000) : plain.evenings.get(0)[0] + draw(-60, 60);
+        int day = aboutFirstEvening(draw(0, 3) == 0 ? draw(0, 1) * 999999 : draw(100, 3000), 60);
         int degree = draw(0, 359);
         if (plain.evenings.size() >= 5) return;
         plain.evenings.add(new int[] {day, degree});
         due("observed", star.observed(day, degree), plain.evenings.size());
+    }
+
+    /** A day about the first evening; the one told, if there is no evening. */
+    private int aboutFirstEvening(int without, int about) {
+        int day = plain.evenings.isEmpty() ? without : plain.evenings.get(0)[0] + draw(-about, about);
+        return Math.max(0, Math.min(999999, day));
     }
 
     private void broke() {
@@ -269,7 +275,7 @@ public final class AgainstPlainTest {
                 break;
             }
             case 20: {
-                int day = plain.evenings.isEmpty() ? draw(100, 3000) : plain.evenings.get(0)[0] + draw(-80, 80);
+                int day = aboutFirstEvening(draw(100, 3000), 80);
                 int slack = draw(0, 90);
                 int of4 = draw(0, 4);
                 due("paths", star.paths(day, slack, of4), plain.paths(day, slack, of4));

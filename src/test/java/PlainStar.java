@@ -81,9 +81,13 @@ final class PlainStar {
         int t = c.pass;
         for (int i = 0; i < Math.abs(k); i++) {
             t = k > 0 ? nextPass(t, c.span, set) : passAhead(t, c.span);
-            if (t < 0 || t > 999999) return null;
+            if (!isPass(t)) return null;
         }
         return t;
+    }
+
+    static boolean isPass(int day) {
+        return day >= 0 && day <= 999999;
     }
 
     int wide(int k) {
@@ -374,7 +378,7 @@ final class PlainStar {
         if (pass == null) return NOT;
         Integer best = null;
         for (int move = -wide(k); move <= wide(k); move += 1 + wide(k) / 20) {
-            if (fitDays(words.get(word), comets.get(comet), pass + move, 0).isEmpty()) continue;
+            if (!isPass(pass + move) || fitDays(words.get(word), comets.get(comet), pass + move, 0).isEmpty()) continue;
             if (best == null || Math.abs(move) < Math.abs(best)) best = move;
         }
         return best == null ? NOT : best;
@@ -470,6 +474,7 @@ final class PlainStar {
         if (evenings.size() < 2) return STATE;
         int found = 0;
         for (int pass = day - 60; pass <= day + 60; pass++) {
+            if (!isPass(pass)) continue;
             for (int reach = 5; reach <= 95; reach += 10) {
                 for (int way : new int[] {1, -1}) {
                     Comet c = new Comet();

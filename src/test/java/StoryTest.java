@@ -13,6 +13,8 @@ public final class StoryTest {
         bestOfSix();
         observed();
         paths();
+        pathsOfFewerPasses();
+        pathsOfNoPass();
         pathsOfMore();
         alike();
         chance();
@@ -226,8 +228,45 @@ public final class StoryTest {
         x.observed(30, 1);
         path(x, 90, 2, 2420, 30, 5, 1, 359);
         path(x, 90, 1, 0, NOT, NOT, NOT, NOT);
-        // A pass is sought 60 days to either side, be it ahead of day 0.
-        path(x, 0, 2, 2420, -60, 5, 1, 274);
+    }
+
+    // A pass is a day: about the first and the last days there are fewer than 121.
+    private static void pathsOfFewerPasses() {
+        SameStar x = new SameStar();
+        x.observed(30, 359);
+        x.observed(30, 1);
+        path(x, 0, 2, 1220, 0, 5, 1, 282);
+        path(x, 0, 1, 0, NOT, NOT, NOT, NOT);
+        path(x, 1, 2, 1240, 0, 5, 1, 282);
+        path(x, 59, 2, 2400, 0, 5, 1, 282);
+        path(x, 60, 2, 2420, 0, 5, 1, 282);
+        path(x, 61, 2, 2420, 1, 5, 1, 283);
+        x.forget();
+        x.observed(999999, 10);
+        x.observed(999999, 10);
+        path(x, 999999, 0, 1220, 999939, 5, 1, 287);
+        path(x, 999998, 0, 1240, 999938, 5, 1, 287);
+        path(x, 999940, 0, 2400, 999880, 5, 1, 284);
+        path(x, 999939, 0, 2420, 999879, 5, 1, 284);
+    }
+
+    private static SameStar evenings(int[]... evenings) {
+        SameStar x = new SameStar();
+        for (int[] e : evenings) x.observed(e[0], e[1]);
+        return x;
+    }
+
+    // Evenings that one path alone lets, by pass 7; with all of them ten days sooner it is no pass.
+    private static void pathsOfNoPass() {
+        // Reach 35, way 1, node 0: 90 / 36 is 2, 90 * 10 / 45 is 20, 90 * 30 / 65 is 41, 90 * 70 / 105 is 60.
+        path(evenings(new int[][] {{17, 20}, {37, 41}, {77, 60}, {8, 2}}), 0, 0, 1, 7, 35, 1, 0);
+        // 90 * 3 / 38 is 7.
+        SameStar x = evenings(new int[][] {{7, 20}, {27, 41}, {67, 60}, {0, 7}});
+        path(x, 0, 0, 0, NOT, NOT, NOT, NOT);
+        path(x, 57, 0, 0, NOT, NOT, NOT, NOT);
+        // On the other side: 90 * -3 / 38 is -7.
+        path(evenings(new int[][] {{999982, 340}, {999962, 319}, {999922, 300}, {999989, 353}}), 999999, 0, 1, 999992, 35, 1, 0);
+        path(evenings(new int[][] {{999992, 340}, {999972, 319}, {999932, 300}, {999999, 353}}), 999999, 0, 0, NOT, NOT, NOT, NOT);
     }
 
     private static void pathsOfMore() {

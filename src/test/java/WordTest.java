@@ -21,6 +21,7 @@ public final class WordTest {
         fitsCopied();
         fitsBad();
         perhaps();
+        perhapsOfNoPass();
         perhapsSteps();
         whose();
         evening();
@@ -396,6 +397,27 @@ public final class WordTest {
         Dues.tell(x, 0, "e<0-4");
         due("perhaps of return 0 has no moves", x.perhaps(Dues.add(x, WORD, 0, 36000, 0, 0), 0, 0), NOT);
         due("perhaps of return 0", x.perhaps(Dues.add(x, WORD, 0, 35990, 0, 0), 0, 0), 0);
+    }
+
+    // A pass is a day: what is moved to ahead of day 0 or behind day 999999 is none.
+    private static void perhapsOfNoPass() {
+        SameStar x = new SameStar();
+        x.great(20000, 60);
+        x.comet(300, 280, 109010, 5);
+        due("pass -1", x.pass(0, -1, 0), 20);
+        Dues.tell(x, 0, "e=50");
+        due("perhaps by a pass on day 4", x.perhaps(Dues.add(x, WORD, 0, 54, 0, 0), 0, -1), -16);
+        due("perhaps by a pass on day 0", x.perhaps(Dues.add(x, WORD, 0, 50, 0, 0), 0, -1), -20);
+        int word = Dues.add(x, WORD, 0, 46, 0, 0);
+        due("perhaps by no pass", x.perhaps(word, 0, -1), NOT);
+        Dues.tell(x, 0, "e=50|e=2");
+        due("perhaps by the like move behind", x.perhaps(word, 0, -1), 24);
+        x.comet(999781, 250, 109010, 5);
+        due("pass 1", x.pass(1, 1, 0), 999971);
+        Dues.tell(x, 0, "e=0-50");
+        due("perhaps by a pass on day 999995", x.perhaps(Dues.add(x, WORD, 0, 999945, 0, 0), 1, 1), 24);
+        due("perhaps by a pass on day 999999", x.perhaps(Dues.add(x, WORD, 0, 999949, 0, 0), 1, 1), 28);
+        due("perhaps by no pass", x.perhaps(Dues.add(x, WORD, 0, 999953, 0, 0), 1, 1), NOT);
     }
 
     // e is 3, if the pass is moved by -3: there is such a move or not, as steps go.
