@@ -158,15 +158,17 @@ public final class ActTest {
 
     private static String traceOf(SameStar x) {
         StringBuilder trace = new StringBuilder();
-        for (int i = 0; i < Math.min(24, x.count(6)); i++) trace.append(x.trace(i)).append(' ');
-        due("trace beyond the last", x.trace(x.count(6)), BAD);
+        int ran = x.count(6);
+        for (int i = 0; i < ran; i++) trace.append(x.trace(i)).append(' ');
+        due("trace beyond the last", x.trace(ran), BAD);
         return trace.toString();
     }
 
     private static void byClasses() {
-        SameStar x = new SameStar();
         int[] xs = {0, 1, 5, -7, 1000, Integer.MAX_VALUE, Integer.MIN_VALUE, 0x5bd1e995};
         for (int n = 0; n < 24; n++) {
+            SameStar x = new SameStar();
+            for (int i = 0; i < n; i++) x.word(99, 0, 0);
             int kind = n % 8;
             int more = kind == 2 || kind == 7 ? 1 : n < 8 ? 0 : n - 3;
             due("word " + n, x.word(100 * kind + 99, 0, more), n);

@@ -2,7 +2,8 @@ import java.util.Random;
 
 /** Runs of drawn calls, each answered by SameStar and by PlainStar alike. */
 public final class AgainstPlainTest {
-    private static final int RUNS = 120, CALLS = 400;
+    // An object is good for 512 calls; one draw makes at most some forty.
+    private static final int RUNS = 160, DRAWS = 400, MOST_CALLS = 512 - 40;
     private static int wrong = 0;
 
     private final int run;
@@ -10,6 +11,7 @@ public final class AgainstPlainTest {
     private final SameStar star = new SameStar();
     private final PlainStar plain = new PlainStar();
     private int nextY = 0, nextM = 0, nextD = 0;
+    private int calls = 0;
 
     private AgainstPlainTest(int run) {
         this.run = run;
@@ -20,13 +22,14 @@ public final class AgainstPlainTest {
         int runs = args.length > 0 ? Integer.parseInt(args[0]) : RUNS;
         for (int run = 1; run <= runs; run++) {
             AgainstPlainTest test = new AgainstPlainTest(run);
-            for (int i = 0; i < CALLS; i++) test.drawCall(i);
+            for (int i = 0; i < DRAWS && test.calls < MOST_CALLS; i++) test.drawCall(i);
         }
         System.out.println(wrong == 0 ? "all answers are as the plain one's" : wrong + " answers are not as the plain one's");
         if (wrong != 0) System.exit(1);
     }
 
     private void due(String call, long got, long want) {
+        calls++;
         if (got == want) return;
         wrong++;
         if (wrong < 40) System.out.println("run " + run + ": " + call + " answered " + got + ", due is " + want);

@@ -43,6 +43,20 @@ final class Dues {
         return star;
     }
 
+    /**
+     * A comet that stands opposite the sun when it passes, so that all can see it on all days from 120
+     * ahead of the pass to 120 behind it: in the east up to the pass, in the west behind it.
+     */
+    static SameStar opposite(int pass, int span) {
+        SameStar star = new SameStar();
+        addOpposite(star, pass, span);
+        return star;
+    }
+
+    static int addOpposite(SameStar star, int pass, int span) {
+        return star.comet(pass, span, 100 * ((pass + 180) % 360) + 99, 5);
+    }
+
     void end() {
         System.out.println(test + ": " + (wrong == 0 ? "all answers are as due" : wrong + " answers are not as due"));
         if (wrong != 0) System.exit(1);

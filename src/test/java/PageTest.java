@@ -55,9 +55,12 @@ public final class PageTest {
         due("row bad page ahead of -14", x.row(6, 0, -1), BAD);
         due("a refused one is not held", x.put(0, 0, 1), NOTHING_THERE);
         for (int sort = 0; sort < 5; sort++) {
-            due("row of sort " + sort, x.row(0, sort, 60), 1);
-            for (int i = 0; i < 60; i++) due("element at first", x.element(0, i), 0);
-            for (int i = 0; i < 60; i++) x.put(0, i, 1);
+            SameStar y = new SameStar();
+            due("row of sort " + sort, y.row(0, sort, 60), 1);
+            for (int i = 0; i < 60; i++) due("element at first", y.element(0, i), 0);
+            for (int i = 0; i < 60; i++) y.put(0, i, 1);
+            due("row of sort " + sort + " again", y.row(0, sort, 60), 1);
+            for (int i = 0; i < 60; i++) due("element of a new row", y.element(0, i), 0);
         }
         due("row of none", x.row(0, 0, 0), 1);
         due("element of none", x.put(0, 0, 1), NO_SUCH_PLACE);

@@ -127,8 +127,8 @@ public final class TextTest {
         String signs = "1s(!-)<?;*|";
         for (int length = 1; length <= 4; length++) {
             int tapes = (int) Math.pow(signs.length(), length);
-            SameStar x = new SameStar();
             for (int i = 0; i < tapes; i++) {
+                SameStar x = new SameStar();
                 StringBuilder tape = new StringBuilder();
                 for (int j = 0, rest = i; j < length; j++, rest /= signs.length()) tape.append(signs.charAt(rest % signs.length()));
                 int fault = PlainStar.fault(tape.toString());

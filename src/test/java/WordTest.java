@@ -390,10 +390,6 @@ public final class WordTest {
         due("perhaps by two like moves", x.perhaps(word, 0, 1), -8);
         Dues.tell(x, 0, "e<0-4");
         due("perhaps by one of them", x.perhaps(word, 0, 1), 8);
-        // What is seen of a moved return on one day tells nothing of another day that is as far from it.
-        Dues.tell(x, 0, "d=4&e>30");
-        due("perhaps on a day that is not so", x.perhaps(Dues.add(x, WORD, 0, 75968, 0, 0), 0, 1), NOT);
-        due("perhaps on a day that is so", x.perhaps(Dues.add(x, WORD, 0, 75964, 0, 0), 0, 1), -8);
         Dues.tell(x, 0, "e<0-4");
         due("perhaps of return 0 has no moves", x.perhaps(Dues.add(x, WORD, 0, 36000, 0, 0), 0, 0), NOT);
         due("perhaps of return 0", x.perhaps(Dues.add(x, WORD, 0, 35990, 0, 0), 0, 0), 0);
