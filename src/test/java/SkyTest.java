@@ -248,11 +248,24 @@ public final class SkyTest {
         x.great(100, 60);
         due("seen after it came: pass -1", x.pass(4, -1, 0), 3460);
         due("seen after it came", x.seen(4, 1, 3575), -1);
+        seenByTheMoon();
         due("seen people 9", x.seen(1, 9, 3600), VOID);
         due("seen people -1", x.seen(1, -1, 3600), VOID);
         due("seen day -1", x.seen(1, 0, -1), VOID);
         due("seen day 1000000", x.seen(1, 0, 1000000), VOID);
         due("seen comet 5", x.seen(5, 0, 3600), VOID);
+    }
+
+    // A day that is as far from its pass as another one was may be seen otherwise.
+    private static void seenByTheMoon() {
+        SameStar x = Dues.opposite(36000, 7200);
+        Dues.tell(x, 0, "d=0");
+        due("seen on 43200", x.seen(0, 0, 43200), 1);
+        due("not seen on 43210", x.seen(0, 0, 43210), VOID);
+        x.great(20000, 10);
+        due("the pass by a great body", x.pass(0, 1, 0), 43190);
+        due("not seen on that pass", x.seen(0, 0, 43190), VOID);
+        due("seen 10 days behind it", x.seen(0, 0, 43200), 1);
     }
 
     private static void foretold() {

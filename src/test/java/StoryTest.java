@@ -8,6 +8,7 @@ public final class StoryTest {
         judgeRoots();
         judgeWatches();
         judgeAgain();
+        judgeAfterAGreatBody();
         best();
         bestOfLikeOnes();
         bestOfSix();
@@ -121,6 +122,16 @@ public final class StoryTest {
         due("judge ahead of words", x.judge(1), -3);
         due("words", x.words(1, 0, 0, 1), 1);
         due("judge after words", x.judge(1), 0);
+    }
+
+    private static void judgeAfterAGreatBody() {
+        SameStar x = Dues.opposite(36000, 7200);
+        Dues.add(x, WORD, 0, 43200 + 120, 0, 0);
+        due("judge", x.judge(1), -2);
+        due("best", x.best(0), 0);
+        x.great(20000, 10);
+        due("the pass by a great body", x.pass(0, 1, 0), 43190);
+        due("judge after a great body alone", x.judge(1), -5);
     }
 
     private static void best() {
@@ -451,10 +462,21 @@ public final class StoryTest {
         y.comet(76180, 40000, 109010, 0);
         due("next: the other one is seen by a return of its own", y.next(0, 2, 0), 75880);
         nextAtTheEnds();
+        nextAgain();
         SameStar z = Dues.turning();
         z.comet(36180, 400, 109010, 5);
         z.watch(7, 36060, 36070);
         due("next: the other one is seen, too", z.next(0, 1, 0), NOT);
+    }
+
+    // What one call gathers of the other comet's returns is nothing to the next call.
+    private static void nextAgain() {
+        SameStar x = Dues.opposite(360000, 720);
+        Dues.addOpposite(x, 360000, 200);
+        Dues.addOpposite(x, 345600, 7200);
+        x.watch(0, 360000, 360000);
+        for (int i = 0; i < 3; i++) due("next: seen by the second one's pass", x.next(0, 1, 0), NOT);
+        due("next: seen by the third one's return 2", x.next(0, 2, 0), NOT);
     }
 
     private static void nextAtTheEnds() {

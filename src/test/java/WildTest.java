@@ -6,7 +6,8 @@ import java.util.Random;
  * that can be counted. The objects that a run makes stay few: all calls of one run share one room.
  */
 public final class WildTest {
-    private static final int RUNS = 400, CALLS = 512, MOST_BYTES = 1500000;
+    // So few draws, for an object is good for 512 calls, and one draw makes up to some forty.
+    private static final int RUNS = 3000, DRAWS = 65, MOST_BYTES = 1500000;
     private static final int[] EDGES = {
         Integer.MIN_VALUE, Integer.MIN_VALUE + 1, -2000000000, -1000000, -401, -61, -60, -14, -2, -1, 0, 1, 2, 3, 4, 5, 6, 7, 8, 9, 10, 11, 12, 13, 18, 19,
         20, 23, 24, 59, 60, 61, 90, 91, 99, 100, 119, 120, 121, 149, 150, 180, 181, 199, 200, 201, 299, 359, 360, 400, 401, 799, 9999, 10000, 20000, 36000,
@@ -16,10 +17,22 @@ public final class WildTest {
 
     public static void main(String[] args) {
         for (int run = 0; run < RUNS; run++) {
-            wild(new SameStar(), new Random(run));
+            wild(run % 2 == 0 ? new SameStar() : nearlyFull(), new Random(run));
         }
         room();
         DUES.end();
+    }
+
+    private static SameStar nearlyFull() {
+        SameStar x = new SameStar();
+        for (int i = 0; i < 3; i++) x.great(500 + i, 60);
+        for (int i = 0; i < 9; i++) x.comet(4000 * i, 200 + i, 100 * i + 5, i);
+        x.row(5, 1, 60);
+        for (int i = 0; i < 60; i++) x.put(5, i, i % 5 == 0 ? i : i % 5 == 4 ? i % 3 == 0 ? 0 : 4 + i % 2 : 30 * i % 400);
+        for (int i = 0; i < 12; i++) x.words(i % 9, 5, 0, 12);
+        for (int i = 0; i < 9; i++) x.watch(i, 0, 999999);
+        for (int i = 0; i < 4; i++) x.observed(4000 + i, i);
+        return x;
     }
 
     private static int any(Random random) {
@@ -30,7 +43,7 @@ public final class WildTest {
     }
 
     private static void wild(SameStar x, Random r) {
-        for (int i = 0; i < CALLS; i++) {
+        for (int i = 0; i < DRAWS; i++) {
             int a = any(r);
             int b = any(r);
             int c = any(r);
